@@ -8,6 +8,7 @@ public final class FallowFerry {
     private static final int NOT_SO_MANY = -5;
     private static final int TEXT_MOST = 200;
     private static final int LOAD_MOST = 20;
+    private static final int DAYS_MOST = 20;
     private static final int CROSSINGS_MOST = 20;
     private static final int YEARS_MOST = 50;
     private static final int SEEN_MOST = 8;
@@ -446,6 +447,15 @@ public final class FallowFerry {
             return (ferryOf(standing) == 1 ? standing : ~standing) & all;
         }
 
+        static int setsOf(int here) {
+            return 1 << Integer.bitCount(here);
+        }
+
+        /** From 0 on the sets of those who are here, each greater than the one ahead: PLANS are tried in order. */
+        static int nextSet(int set, int here) {
+            return (set - here) & here;
+        }
+
         boolean isSafe(int standing) {
             return peaceful[all & ~atFerry(standing)];
         }
@@ -477,28 +487,28 @@ public final class FallowFerry {
     private static final class Reader {
         private static final int END = 0, NUMBER = 1, STOP = 2, FAULTY = 3;
         private static final int THING = 4, FEARS = 5, FERRY = 6, LOAD = 7, DAYS = 8, FROST = 9;
-        private static final int NUMBER_MOST = 99;
 
         private int[] text;
         private int length;
+        // The last one is END, whose place is the text's length.
+        private final int[] tokens = new int[TEXT_MOST + 1];
+        private final int[] places = new int[TEXT_MOST + 1];
+        private final int[] values = new int[TEXT_MOST + 1];
         private int at;
-        private int token;
-        private int place;
-        private int value;
         private int fault;
         private int toldOnce;
 
         /** How many ITEMS, or -10 less FAULT. */
         int readAll(int[] bytes, int many, River river) {
             text = bytes;
-            length = many;
+            length = Math.min(many, TEXT_MOST);
+            split();
             at = 0;
             fault = -1;
             toldOnce = 0;
             river.beginAnew();
-            advance();
             int items = 0;
-            for (int k = 0; k <= length && fault < 0 && token != END; k++) {
+            while (items < TEXT_MOST && fault < 0 && tokens[at] != END) {
                 readItem(river);
                 items++;
             }
@@ -510,20 +520,20 @@ public final class FallowFerry {
         }
 
         private void readItem(River river) {
-            switch (token) {
+            switch (tokens[at]) {
                 case THING: readThing(river); break;
                 case FEARS: readFears(river); break;
                 case FERRY: river.putFerry(readOnce(0, 1)); break;
                 case LOAD: river.load = readOnce(1, LOAD_MOST); break;
-                case DAYS: river.days = readOnce(0, 20); break;
+                case DAYS: river.days = readOnce(0, DAYS_MOST); break;
                 case FROST: river.frost = readOnce(0, 9); break;
-                default: failAt(place);
+                default: fail();
             }
         }
 
         private void readThing(River river) {
             if (river.things >= River.THINGS_MOST) {
-                failAt(place);
+                fail();
                 return;
             }
             advance();
@@ -539,16 +549,15 @@ public final class FallowFerry {
 
         private void readFears(River river) {
             if (river.pairs >= River.PAIRS_MOST) {
-                failAt(place);
+                fail();
                 return;
             }
             advance();
             int a = readNumber(0, river.things - 1);
-            int placeOfB = place;
-            int b = readNumber(0, river.things - 1);
-            if (a == b) {
-                failAt(placeOfB);
+            if (tokens[at] == NUMBER && values[at] == a) {
+                fail();
             }
+            int b = readNumber(0, river.things - 1);
             readStop();
             if (fault < 0) {
                 river.addPair(a, b);
@@ -556,9 +565,9 @@ public final class FallowFerry {
         }
 
         private int readOnce(int least, int most) {
-            int bit = 1 << token;
+            int bit = 1 << tokens[at];
             if ((toldOnce & bit) != 0) {
-                failAt(place);
+                fail();
             }
             toldOnce |= bit;
             advance();
@@ -568,9 +577,9 @@ public final class FallowFerry {
         }
 
         private int readNumber(int least, int most) {
-            int number = value;
-            if (token != NUMBER || number < least || number > most) {
-                failAt(place);
+            int number = values[at];
+            if (tokens[at] != NUMBER || number < least || number > most) {
+                fail();
                 return least;
             }
             advance();
@@ -578,76 +587,95 @@ public final class FallowFerry {
         }
 
         private void readStop() {
-            if (token != STOP) {
-                failAt(place);
+            if (tokens[at] != STOP) {
+                fail();
                 return;
             }
             advance();
         }
 
-        /** The first FAULT stays: what is read behind it may be at a loss because of it. */
-        private void failAt(int where) {
-            if (fault < 0) {
-                fault = where;
-            }
-        }
-
         private void advance() {
-            while (at < length && byteAt(at) == ' ') {
+            if (at < TEXT_MOST) {
                 at++;
-            }
-            place = at;
-            value = 0;
-            int first = byteAt(at);
-            if (first < 0) {
-                token = END;
-            } else if (isLetter(first)) {
-                advanceWord();
-            } else if (isDigit(first)) {
-                advanceNumber();
-            } else {
-                at++;
-                token = first == ';' ? STOP : FAULTY;
             }
         }
 
-        private void advanceWord() {
-            while (at < length && isLetter(byteAt(at))) {
-                at++;
+        /** The first FAULT stays: what is read behind it may be at a loss because of it. */
+        private void fail() {
+            if (fault < 0) {
+                fault = places[at];
             }
-            token = wordRead();
         }
 
-        private void advanceNumber() {
-            while (at < length && isDigit(byteAt(at))) {
-                // A longer one is a FAULT whatever follows; held down so that it can't wrap.
-                value = Math.min(value * 10 + byteAt(at) - '0', NUMBER_MOST + 1);
-                at++;
+        private void split() {
+            int many = 0;
+            int start = behindBlanks(0);
+            while (many < TEXT_MOST && start < length) {
+                int end = endOf(start);
+                places[many] = start;
+                tokens[many] = tokenOf(start, end);
+                values[many] = tokens[many] == NUMBER ? numberOf(start, end) : 0;
+                many++;
+                start = behindBlanks(end);
             }
-            boolean zeroAhead = at - place > 1 && byteAt(place) == '0';
-            token = zeroAhead || value > NUMBER_MOST ? FAULTY : NUMBER;
+            places[many] = length;
+            tokens[many] = END;
+            values[many] = 0;
         }
 
-        private int wordRead() {
-            return spells("thing") ? THING
-                : spells("fears") ? FEARS
-                : spells("ferry") ? FERRY
-                : spells("load") ? LOAD
-                : spells("days") ? DAYS
-                : spells("frost") ? FROST
+        private int behindBlanks(int start) {
+            int end = start;
+            while (end < length && byteAt(end) == ' ') {
+                end++;
+            }
+            return end;
+        }
+
+        private int endOf(int start) {
+            boolean word = isLetter(byteAt(start));
+            boolean number = isDigit(byteAt(start));
+            int end = start + 1;
+            while (end < length && (word && isLetter(byteAt(end)) || number && isDigit(byteAt(end)))) {
+                end++;
+            }
+            return end;
+        }
+
+        private int tokenOf(int start, int end) {
+            int first = byteAt(start);
+            return isLetter(first) ? wordOf(start, end) : isDigit(first) ? NUMBER : first == ';' ? STOP : FAULTY;
+        }
+
+        private int wordOf(int start, int end) {
+            return spells(start, end, "thing") ? THING
+                : spells(start, end, "fears") ? FEARS
+                : spells(start, end, "ferry") ? FERRY
+                : spells(start, end, "load") ? LOAD
+                : spells(start, end, "days") ? DAYS
+                : spells(start, end, "frost") ? FROST
                 : FAULTY;
         }
 
-        private boolean spells(String word) {
-            if (at - place != word.length()) {
+        private boolean spells(int start, int end, String word) {
+            if (end - start != word.length()) {
                 return false;
             }
             for (int k = 0; k < word.length(); k++) {
-                if (byteAt(place + k) != word.charAt(k)) {
+                if (byteAt(start + k) != word.charAt(k)) {
                     return false;
                 }
             }
             return true;
+        }
+
+        /** -1, which can stand nowhere, for one that is above 99 or has a 0 ahead: three digits are one of these. */
+        private int numberOf(int start, int end) {
+            int ones = byteAt(end - 1) - '0';
+            if (end - start == 1) {
+                return ones;
+            }
+            int tens = byteAt(start) - '0';
+            return end - start == 2 && tens > 0 ? 10 * tens + ones : -1;
         }
 
         private int byteAt(int where) {
@@ -766,12 +794,11 @@ public final class FallowFerry {
 
         private void goOn(River river, int place, int load, int there) {
             int here = river.atFerry(standing[place]) & there;
-            int sets = 1 << Integer.bitCount(here);
+            int sets = River.setsOf(here);
             int those = 0;
             for (int k = 0; k < sets; k++) {
                 add(river.crossing(standing[place], those, load, there), place, those, steps[place] + 1);
-                // the next greater set of those that are here
-                those = (those - here) & here;
+                those = River.nextSet(those, here);
             }
         }
 
@@ -876,14 +903,14 @@ public final class FallowFerry {
 
         private void followFrom(River river, int standing, int k) {
             int here = river.atFerry(standing);
-            int sets = 1 << Integer.bitCount(here);
+            int sets = River.setsOf(here);
             int set = 0;
             for (int j = 0; j < sets; j++) {
                 int next = river.crossing(standing, set, river.load, river.all);
                 if (next >= 0 && agrees(k, next)) {
                     ways[k][next] += ways[k - 1][standing];
                 }
-                set = (set - here) & here;
+                set = River.nextSet(set, here);
             }
         }
 
@@ -923,7 +950,7 @@ public final class FallowFerry {
         /** -1: no CROSSING goes on from there. */
         private int crossedFrom(River river, int standing, int k) {
             int here = river.atFerry(standing);
-            int sets = 1 << Integer.bitCount(here);
+            int sets = River.setsOf(here);
             int those = -1;
             int set = 0;
             for (int j = 0; j < sets; j++) {
@@ -931,7 +958,7 @@ public final class FallowFerry {
                 if (next >= 0 && ways[k][next] != 0) {
                     those = Math.max(those, 0) | set;
                 }
-                set = (set - here) & here;
+                set = River.nextSet(set, here);
             }
             return those;
         }
