@@ -2,9 +2,7 @@
 public final class PromisesTest {
     private static final int BAD = -1, STATE = -2, FULL = -3, NONE = -9, NO = -1000000, NOT_SO_MANY = -5;
 
-    /** A wolf, a goat and a cabbage on BANK 0 that want to be on BANK 1; the ferryman takes one. */
-    private static final String WOLF =
-        "thing 0 1 3 1;thing 0 1 5 1;thing 0 1 2 1;fears 0 1;fears 1 2;load 1;";
+    private static final String WOLF = Rivers.WOLF;
 
     private final Checks checks = new Checks();
 
