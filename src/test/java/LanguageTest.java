@@ -7,8 +7,10 @@ import java.nio.file.Files;
 import java.nio.file.Path;
 import java.util.ArrayList;
 import java.util.Collections;
+import java.util.HashMap;
 import java.util.HashSet;
 import java.util.List;
+import java.util.Map;
 import java.util.Set;
 import java.util.regex.Matcher;
 import java.util.regex.Pattern;
@@ -28,6 +30,10 @@ public final class LanguageTest {
     private static final List<String> IMPORTS =
         List.of("java.util.Arrays", "java.util.ArrayList", "java.util.List", "java.util.Iterator");
 
+    private static final int METHOD_MOST = 60;
+    private static final int DEEP_MOST = 8;
+    private static final List<String> NO_CALLS = List.of("if", "for", "while", "switch");
+
     private final Checks checks = new Checks();
 
     public static void main(String[] args) throws IOException {
@@ -35,7 +41,9 @@ public final class LanguageTest {
         t.constants();
         t.face();
         t.classesInside();
-        t.words(withoutCommentsAndTexts(Files.readString(Path.of(SOURCE))));
+        String source = withoutCommentsAndTexts(Files.readString(Path.of(SOURCE)));
+        t.words(source);
+        t.methods(bodies(source));
         t.checks.end();
     }
 
@@ -123,6 +131,52 @@ public final class LanguageTest {
             case "Arrays": return List.of("copyOf", "copyOfRange", "fill").contains(call);
             default: return !call.endsWith("Exact") && !call.equals("random");
         }
+    }
+
+    // ---- how long methods are, how deep calls go (rules 8 and 11)
+
+    private void methods(Map<String, List<String>> bodies) {
+        checks.due("methods are found", bodies.size() > FACE.length ? 1 : 0, 1);
+        for (String name : bodies.keySet()) {
+            for (String body : bodies.get(name)) {
+                long lines = body.lines().count();
+                checks.due(name + " is short, " + lines + " lines", lines <= METHOD_MOST ? 1 : 0, 1);
+            }
+            int depth = depth(name, bodies, 0);
+            checks.due(name + " goes " + depth + " deep", depth <= DEEP_MOST ? 1 : 0, 1);
+        }
+    }
+
+    /** Methods of one name are taken together: what is told is too much, if anything. A recursion has no end here. */
+    private static int depth(String name, Map<String, List<String>> bodies, int guard) {
+        if (guard > 2 * DEEP_MOST) return guard;
+        int deepest = 0;
+        for (String body : bodies.getOrDefault(name, List.of())) {
+            Matcher calls = Pattern.compile("(\\w+)\\(").matcher(body);
+            while (calls.find()) {
+                if (NO_CALLS.contains(calls.group(1))) continue;
+                deepest = Math.max(deepest, depth(calls.group(1), bodies, guard + 1));
+            }
+        }
+        return deepest + 1;
+    }
+
+    /** The bodies of all methods of a name, from { to }. */
+    private static Map<String, List<String>> bodies(String source) {
+        Map<String, List<String>> all = new HashMap<>();
+        Matcher heads = Pattern.compile("(\\w+)\\([^()]*\\) \\{").matcher(source);
+        while (heads.find()) {
+            if (NO_CALLS.contains(heads.group(1))) continue;
+            int from = heads.end() - 1;
+            int to = from;
+            int open = 0;
+            do {
+                open += source.charAt(to) == '{' ? 1 : source.charAt(to) == '}' ? -1 : 0;
+                to++;
+            } while (open > 0);
+            all.computeIfAbsent(heads.group(1), name -> new ArrayList<>()).add(source.substring(from, to));
+        }
+        return all;
     }
 
     private static String withoutCommentsAndTexts(String source) {
